@@ -1,0 +1,55 @@
+/** Counts and prints the answers that are not the ones that are due. */
+final class Due {
+    interface Call {
+        long answer();
+    }
+
+    private int wrong = 0;
+    private int asked = 0;
+
+    void answers(String text, long want, Call call) {
+        asked++;
+        try {
+            long got = call.answer();
+            if (got != want) {
+                complain(text + " answered " + got + ", due is " + want);
+            }
+        } catch (RuntimeException e) {
+            complain(text + " threw " + e + ", due is " + want);
+        }
+    }
+
+    /** Looks at the very class: an ArrayIndexOutOfBoundsException is no IndexOutOfBoundsException here. */
+    void throwing(String text, Class<? extends RuntimeException> want, Call call) {
+        asked++;
+        try {
+            long got = call.answer();
+            complain(text + " answered " + got + ", due is " + want.getSimpleName());
+        } catch (RuntimeException e) {
+            if (e.getClass() != want) {
+                complain(text + " threw " + e + ", due is " + want.getSimpleName());
+            }
+        }
+    }
+
+    void holds(String text, boolean isSo) {
+        asked++;
+        if (!isSo) {
+            complain(text);
+        }
+    }
+
+    private void complain(String text) {
+        wrong++;
+        if (wrong <= 50) {
+            System.out.println(text);
+        }
+    }
+
+    void end() {
+        System.out.println(asked + " answers looked at, " + wrong + " wrong");
+        if (wrong != 0) {
+            System.exit(1);
+        }
+    }
+}
