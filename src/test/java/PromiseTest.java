@@ -209,6 +209,8 @@ public final class PromiseTest {
             due.throwing("value(0, " + (no == 8 ? 3 : no) + ")", ARGUMENT, () -> s.value(0, no == 8 ? 3 : no));
         }
         s.weight(6, 4, -3, 1);
+        value(s, "without rows", 5, -1, -1, 1);
+        value(s, "without rows", 6, 0, 0, 1);
         s.tank(8, 10, 1, 1, 1);
         s.filled(0, 2);
         s.hydro(4, 5, 1);
@@ -362,6 +364,10 @@ public final class PromiseTest {
         s.limit(0, 0, 7, 100);
         due.answers("four quarters", 5, s::ballast);
         due.answers("four quarters of 8", 8, () -> s.fill(0));
+        StabilitySums tooSmall = new StabilitySums();
+        tooSmall.tank(8, 0, 0, 0, 0);
+        tooSmall.limit(0, 0, 9, 100);
+        due.answers("there is no fifth quarter", -1, tooSmall::ballast);
         s.limit(0, 0, 0, 7);
         due.answers("no pumping keeps both", -1, s::ballast);
         due.answers("NONE", -1, () -> s.fill(0));
@@ -498,6 +504,25 @@ public final class PromiseTest {
         due.answers("200000 are within", 0, () -> heavy.step(0));
     }
 
+    private void stepsOfSeveral() {
+        StabilitySums s = new StabilitySums();
+        s.weight(10, 0, -1, 0);
+        s.weight(10, 0, 1, 0);
+        s.tank(8, 0, 0, -1, 0);
+        s.tank(8, 0, 0, 1, 0);
+        s.limit(2, 0, 0, 100);
+        s.limit(2, 0, -100, 0);
+        s.plan(false, 1, 1);
+        s.plan(true, 0, 2);
+        s.plan(true, 1, 1);
+        s.plan(false, 0, 1);
+        int[] want = {2, 1, 0, 1};
+        for (int i = 0; i < want.length; i++) {
+            int step = i;
+            due.answers("several: step(" + i + ")", want[i], () -> s.step(step));
+        }
+    }
+
     private void counts() {
         StabilitySums s = new StabilitySums();
         for (int no : new int[] {-1, 6, 7, Integer.MIN_VALUE, Integer.MAX_VALUE}) {
@@ -549,6 +574,7 @@ public final class PromiseTest {
         test.plans();
         test.steps();
         test.stepsWithSurfaces();
+        test.stepsOfSeveral();
         test.counts();
         test.due.end();
     }
