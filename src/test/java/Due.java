@@ -6,6 +6,16 @@ final class Due {
 
     private int wrong = 0;
     private int asked = 0;
+    private String subject = "";
+
+    /** Words that are put ahead of all that is told from now on. */
+    void about(String newSubject) {
+        subject = newSubject;
+    }
+
+    int asked() {
+        return asked;
+    }
 
     void answers(String text, long want, Call call) {
         asked++;
@@ -42,7 +52,7 @@ final class Due {
     private void complain(String text) {
         wrong++;
         if (wrong <= 50) {
-            System.out.println(text);
+            System.out.println(subject + text);
         }
     }
 
