@@ -29,6 +29,11 @@ final class Due {
         }
     }
 
+    /** A division by 0 that the machine itself refuses has the class of a thrown one, but not its text. */
+    static boolean isOfMachine(RuntimeException e) {
+        return "/ by zero".equals(e.getMessage());
+    }
+
     /** Looks at the very class: an ArrayIndexOutOfBoundsException is no IndexOutOfBoundsException here. */
     void throwing(String text, Class<? extends RuntimeException> want, Call call) {
         asked++;
@@ -36,7 +41,7 @@ final class Due {
             long got = call.answer();
             complain(text + " answered " + got + ", due is " + want.getSimpleName());
         } catch (RuntimeException e) {
-            if (e.getClass() != want) {
+            if (e.getClass() != want || isOfMachine(e)) {
                 complain(text + " threw " + e + ", due is " + want.getSimpleName());
             }
         }

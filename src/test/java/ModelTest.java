@@ -4,6 +4,7 @@ import java.util.Random;
 public final class ModelTest {
     private static final int RUNS = 200;
     private static final int PUMPING_RUNS = 800;
+    private static final int LARGEST_RUNS = 120;
     private static final int CALLS = 512;
 
     private final Due due = new Due();
@@ -70,7 +71,7 @@ public final class ModelTest {
         try {
             return Long.toString(call.answer());
         } catch (RuntimeException e) {
-            return e.getClass().getName();
+            return e.getClass().getName() + (Due.isOfMachine(e) ? " of the machine" : "");
         }
     }
 
@@ -225,19 +226,111 @@ public final class ModelTest {
         }
     }
 
+    private long nearEnd(long end) {
+        return oneIn(2) ? end : end - number(1, 3);
+    }
+
+    private long farPlace() {
+        return oneIn(2) ? nearEnd(10000) : -nearEnd(10000);
+    }
+
+    /** Of one sign for most of a run, so that the sums grow as large as can be. */
+    private long farKg(boolean isBelow) {
+        long kg = nearEnd(100000);
+        return isBelow != oneIn(6) ? -kg : kg;
+    }
+
+    /** A ship with all that there can be, all of it near the ends that the document sets. */
+    private void largestRun() {
+        boolean isBelow = oneIn(4);
+        for (int i = 0; i < 40; i++) {
+            long kg = farKg(isBelow);
+            long x = farPlace();
+            long y = farPlace();
+            long z = farPlace();
+            same("weight(" + kg + ", " + x + ", " + y + ", " + z + ")",
+                    () -> program.weight(kg, x, y, z), () -> model.weight(kg, x, y, z));
+        }
+        for (int i = 0; i < 4; i++) {
+            int tank = i;
+            long x = farPlace();
+            long z = farPlace();
+            same("tank", () -> program.tank(40000, 1000000000, x, x, z), () -> model.tank(40000, 1000000000, x, x, z));
+            long kg = nearEnd(40000);
+            same("filled(" + tank + ", " + kg + ")", () -> program.filled(tank, kg), () -> model.filled(tank, kg));
+        }
+        for (long displacement : new long[] {number(1, 3), nearEnd(5000000)}) {
+            long height = farPlace();
+            long draft = farPlace();
+            same("hydro(" + displacement + ", " + height + ", " + draft + ")",
+                    () -> program.hydro(displacement, height, draft), () -> model.hydro(displacement, height, draft));
+        }
+        long left = -nearEnd(10000);
+        long right = nearEnd(10000);
+        same("hull", () -> program.hull(left, right) ? 1 : 0, () -> model.hull(left, right) ? 1 : 0);
+        for (int i = 0; i < 20; i++) {
+            boolean isTank = oneIn(5);
+            int number = (int) number(0, isTank ? 3 : 39);
+            long kg = isTank ? nearEnd(40000) : farKg(isBelow);
+            same("plan(" + isTank + ", " + number + ", " + kg + ")",
+                    () -> program.plan(isTank, number, kg), () -> model.plan(isTank, number, kg));
+        }
+        looks();
+        for (int what = 0; what <= 9; what++) {
+            closeLimit(what);
+            same("check()", program::check, model::check);
+            same("broken()", program::broken, model::broken);
+        }
+        looks();
+    }
+
+    private void looks() {
+        for (int i = 0; i < 24; i++) {
+            int what = i / 3;
+            int side = i % 3;
+            same("value(" + what + ", " + side + ")", () -> program.value(what, side), () -> model.value(what, side));
+        }
+        for (long x : new long[] {-10000, -9999, -9998, -5001, 0, 1, 5000, 9996, 9998, 9999, 10000}) {
+            same("shear(" + x + ")", () -> program.shear(x), () -> model.shear(x));
+            same("bending(" + x + ")", () -> program.bending(x), () -> model.bending(x));
+        }
+        for (int i = 0; i < 20; i++) {
+            int step = i;
+            same("step(" + i + ")", () -> program.step(step), () -> model.step(step));
+        }
+    }
+
+    /** Holds at first, and at one end by less than 1; far off at the other, so that some steps keep it. */
+    private void closeLimit(int what) {
+        long cut = farPlace();
+        long here = what <= 7 ? model.value(what, 0) : what == 8 ? model.shear(cut) : model.bending(cut);
+        long far = 10000000000000L;
+        long low = oneIn(2) ? here : -far;
+        long high = low == here ? far : here + 1;
+        same("limit(" + what + ", " + cut + ", " + low + ", " + high + ")",
+                () -> program.limit(what, cut, low, high), () -> model.limit(what, cut, low, high));
+    }
+
+    private void run(int run) {
+        if (run >= RUNS + PUMPING_RUNS) {
+            largestRun();
+        } else if (run >= RUNS) {
+            pumpingRun();
+        } else {
+            for (int i = 0; i < CALLS && compared < CALLS - 1; i++) {
+                call(i < 40);
+            }
+        }
+    }
+
     public static void main(String[] args) {
         int compared = 0;
         int pumped = 0;
         int notPumped = 0;
         Due all = new Due();
-        for (int run = 0; run < RUNS + PUMPING_RUNS; run++) {
+        for (int run = 0; run < RUNS + PUMPING_RUNS + LARGEST_RUNS; run++) {
             ModelTest test = new ModelTest(run);
-            if (run >= RUNS) {
-                test.pumpingRun();
-            }
-            for (int i = 0; run < RUNS && i < CALLS && test.compared < CALLS - 1; i++) {
-                test.call(i < 40);
-            }
+            test.run(run);
             compared += test.compared;
             pumped += test.pumped;
             notPumped += test.notPumped;
